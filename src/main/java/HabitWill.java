@@ -880,19 +880,19 @@ public final class HabitWill {
         }
 
         void give(int habit, int heir) {
-            if (isBelow(habit, MOST_HABITS)) {
+            if (habit >= 0 && habit < MOST_HABITS) {
                 owner[habit] = heir;
             }
         }
 
         int ownerOf(int habit) {
-            return isBelow(habit, MOST_HABITS) ? owner[habit] : NONE;
+            return habit >= 0 && habit < MOST_HABITS ? owner[habit] : NONE;
         }
 
         int bitsOf(int heir) {
             int bits = 0;
-            for (int habit = 0; habit < law.habits.size; habit++) {
-                if (ownerOf(habit) == heir) {
+            for (int habit = 0; habit < law.habits.size && habit < MOST_HABITS; habit++) {
+                if (owner[habit] == heir) {
                     bits |= 1 << habit;
                 }
             }
@@ -943,12 +943,13 @@ public final class HabitWill {
 
     /** BEST: a search over the first habits that tries the least rows first and keeps only what is better. */
     private static final class Plan {
-        static final int HABITS = 6, HEIRS = 4;
+        static final int HABITS = 6, HEIRS = 4, STEPS = HABITS + 1;
 
         final int[] row = new int[HABITS];
         final int[] kept = new int[HABITS];
         final int[] share = new int[HEIRS];
-        final int[] worthFrom = new int[HABITS + 1];
+        final int[] worthFrom = new int[STEPS];
+        final long[] open = new long[HEIRS * STEPS];
         int habits = 0;
         int heirs = 0;
         int most = 0;
@@ -965,8 +966,11 @@ public final class HabitWill {
             Arrays.fill(kept, NONE);
             Arrays.fill(share, 0);
             Arrays.fill(worthFrom, 0);
-            for (int habit = HABITS - 1; habit >= 0; habit--) {
+            for (int habit = habits - 1; habit >= 0; habit--) {
                 worthFrom[habit] = worthFrom[habit + 1] + law.worthOf(1 << habit);
+            }
+            for (int heir = 0; heir < heirs; heir++) {
+                openSetsOf(law, heir);
             }
             place(this, law, 0, 0);
             known = true;
@@ -976,42 +980,56 @@ public final class HabitWill {
             return isBelow(habit, HABITS) ? kept[habit] : NONE;
         }
 
+        /** Of the habits ahead of each step, the sets with which he may yet live by what comes behind it. */
+        private void openSetsOf(Law law, int heir) {
+            long sets = 0;
+            for (int set = 0; set < 1 << habits; set++) {
+                if (law.canLive(heir, set)) {
+                    sets |= 1L << set;
+                }
+            }
+            keepOpen(heir, habits, sets);
+            for (int step = habits - 1; step >= 0; step--) {
+                sets |= sets >>> (1 << step);
+                keepOpen(heir, step, sets);
+            }
+        }
+
+        private void keepOpen(int heir, int step, long sets) {
+            int place = heir * STEPS + step;
+            if (isBelow(place, open.length)) {
+                open[place] = sets;
+            }
+        }
+
+        private boolean mayAllLive(int step) {
+            for (int heir = 0; heir < heirs && heir < HEIRS; heir++) {
+                int place = heir * STEPS + step;
+                if (!isBelow(place, open.length) || (open[place] >>> share[heir] & 1L) == 0L) {
+                    return false;
+                }
+            }
+            return true;
+        }
+
         private static void place(Plan plan, Law law, int habit, int worth) {
-            if (!isBelow(habit, HABITS + 1) || worth + plan.worthFrom[habit] <= plan.most) {
+            if (!isBelow(habit, STEPS) || worth + plan.worthFrom[habit] <= plan.most || !plan.mayAllLive(habit)) {
                 return;
             }
             if (habit >= plan.habits || habit >= HABITS) {
-                plan.keepIfAllLive(law, worth);
+                plan.most = worth;
+                System.arraycopy(plan.row, 0, plan.kept, 0, HABITS);
                 return;
             }
             for (int heir = 0; heir < plan.heirs && heir < HEIRS; heir++) {
                 int before = plan.share[heir];
-                int after = before | 1 << habit;
-                boolean isAway = (law.habits.hourBits[habit] & law.awayBitsOf(heir)) != 0;
-                if (!isAway && mayYetLive(law, heir, after)) {
-                    plan.share[heir] = after;
-                    plan.row[habit] = heir;
-                    place(plan, law, habit + 1, worth + law.habits.worth[habit]);
-                    plan.share[heir] = before;
-                }
+                plan.share[heir] = before | 1 << habit;
+                plan.row[habit] = heir;
+                place(plan, law, habit + 1, worth + law.habits.worth[habit]);
+                plan.share[heir] = before;
             }
             plan.row[habit] = NONE;
             place(plan, law, habit + 1, worth);
-        }
-
-        /** Leans are looked at only when the row is whole: what one leans on may still come. */
-        private static boolean mayYetLive(Law law, int heir, int bits) {
-            return Integer.bitCount(bits) <= law.roomOf(heir) && !law.barEachOther(bits);
-        }
-
-        private void keepIfAllLive(Law law, int worth) {
-            for (int heir = 0; heir < heirs && heir < HEIRS; heir++) {
-                if (!law.canLive(heir, share[heir])) {
-                    return;
-                }
-            }
-            most = worth;
-            System.arraycopy(row, 0, kept, 0, HABITS);
         }
     }
 
@@ -1035,14 +1053,17 @@ public final class HabitWill {
 
         int divide(int a, int b) {
             int all = (1 << WEEK) - 1;
+            int allOfA = sumOf(a, all);
+            int allOfB = sumOf(b, all);
             int chosen = NONE;
             int most = NONE;
             for (int days = 0; days <= all; days++) {
-                boolean isContentA = sumOf(a, days) >= sumOf(a, all & ~days);
-                boolean isContentB = sumOf(b, all & ~days) >= sumOf(b, days);
-                if (isContentA && isContentB && bothHave(a, b, days) > most) {
+                int ownOfA = sumOf(a, days);
+                int ownOfB = allOfB - sumOf(b, days);
+                boolean envies = ownOfA < allOfA - ownOfA || ownOfB < allOfB - ownOfB;
+                if (!envies && ownOfA + ownOfB > most) {
                     chosen = days;
-                    most = bothHave(a, b, days);
+                    most = ownOfA + ownOfB;
                 }
             }
             return chosen;

@@ -116,6 +116,10 @@ public final class SheetsTest {
             row(x, 0, form, 1, 1, 2, 3, 4, 5);
             Due.is("copy back, over itself", x.copy(0, 2, 0, 0, 4), 1);
             row(x, 0, form, 2, 3, 4, 5, 4, 5);
+            Due.is("copy of the whole row", x.copy(1, 0, 0, 2, 4), 1);
+            row(x, 0, form, 2, 3, 0, 3, 4, 5);
+            Due.is("copy of the whole row to itself", x.copy(0, 0, 0, 0, 6), 1);
+            row(x, 0, form, 2, 3, 0, 3, 4, 5);
             Due.is("copy of none, at the ends", x.copy(0, 6, 1, 4, 0), 1);
             Due.is("no finding", x.count(8), 0);
         }
