@@ -54,6 +54,7 @@ public final class EdgesOfSeenTest {
         willsWithoutHeirs();
         willsOfSeedsAtTheirEnds();
         willsOfOneAndTwenty();
+        willsOfOneHabitAndOneHeir();
         willsKeepRefusals();
         willsChangeNothing();
         Due.end();
@@ -439,7 +440,7 @@ public final class EdgesOfSeenTest {
         return seed.shiftRight(16).mod(BigInteger.valueOf(of)).intValue();
     }
 
-    /** Habits are worth 1, 2, 4 .. up to 9, so one sees which are with whom; no will ahead. */
+    /** Worths that differ, so that one sees which habits are with whom; no will ahead. */
     private static int wills(int seed, int n, int heir, int habits, int heirs, int[] worths) {
         int[] owner = new int[habits];
         java.util.Arrays.fill(owner, NONE);
@@ -499,6 +500,17 @@ public final class EdgesOfSeenTest {
             HabitWill x = Due.estate("a11..;b12..;c14..", "8mm;8mm;8mm", "");
             Due.is("26: one, seed " + seed, x.wills(seed, 1, 1), wills(seed, 1, 1, 3, 3, worths));
             Due.is("26: twenty, seed " + seed, x.wills(seed, 20, 1), wills(seed, 20, 1, 3, 3, worths));
+        }
+    }
+
+    /** A LOT of 1 is 0, and takes its turn. */
+    private static void willsOfOneHabitAndOneHeir() {
+        int[] worths = {5};
+        for (int seed = -20; seed < 20; seed++) {
+            HabitWill x = Due.estate("a15..", "8mm", "");
+            for (int n = 1; n <= 4; n++) {
+                Due.is("26: lots of 1, seed " + seed, x.wills(seed, n, 0), wills(seed, n, 0, 1, 1, worths));
+            }
         }
     }
 

@@ -55,6 +55,7 @@ public final class EdgesOfSheetsTest {
         digestWraps();
         digestAsItIsTold();
         digestWithoutSheets();
+        theLastOfSoManyCalls();
         Due.end();
     }
 
@@ -660,5 +661,17 @@ public final class EdgesOfSheetsTest {
         x.type(0, ';');
         x.undo(0);
         Due.is("34: undone, as it was", x.digest(), before);
+    }
+
+    // ---- An object is used for at most 512 calls after it has been made.
+
+    private static void theLastOfSoManyCalls() {
+        HabitWill x = new HabitWill();
+        for (int pair = 0; pair < 255; pair++) {
+            Due.is("call " + (2 * pair + 1), x.type(0, 'a'), 1);
+            Due.is("call " + (2 * pair + 2), x.undo(0), 0);
+        }
+        Due.is("call 511", x.sheet(3, 2, 60), 60);
+        Due.is("call 512", x.digest(), new HabitWill().digest());
     }
 }

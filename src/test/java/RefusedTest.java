@@ -3,8 +3,8 @@ import java.util.List;
 import java.util.function.ToLongFunction;
 
 /**
- * Refusals change nothing, FINDINGS nothing but count() 8: each refused call on an object of its own, whose whole state
- * is then told and compared with that of a twin on which it was not called.
+ * Refusals change nothing, FINDINGS nothing but count() 8, nor do calls that only tell: each such call on an object of
+ * its own, whose whole state is then told and compared with that of a twin on which it was not called.
  */
 public final class RefusedTest {
     private static final int LEAST = Integer.MIN_VALUE, MOST = Integer.MAX_VALUE;
@@ -87,6 +87,8 @@ public final class RefusedTest {
         WHEN_FULL.add(new Refused("seen", -4, x -> x.seen(0, 0, 0)));
         compare(WHEN_FULL, true);
         notWhenEmpty();
+        callsThatOnlyTell(false);
+        callsThatOnlyTell(true);
         Due.end();
     }
 
@@ -227,5 +229,37 @@ public final class RefusedTest {
         HabitWill x = new HabitWill();
         Due.is("back of none", x.back(), -3);
         Due.is("back of none changes nothing", told(x).equals(due) ? 1 : 0, 1);
+    }
+
+    private static void tells(String name, boolean full, ToLongFunction<HabitWill> call) {
+        HabitWill x = made(full);
+        long got = call.applyAsLong(x);
+        Due.is(name + " tells the same twice", call.applyAsLong(x), got);
+        Due.is(name + " changes nothing", told(x).equals(told(made(full))) ? 1 : 0, 1);
+    }
+
+    private static void callsThatOnlyTell(boolean full) {
+        for (int n = 0; n < 2; n++) {
+            int it = n;
+            tells("fault", full, x -> x.fault(it));
+            tells("habit", full, x -> x.habit(it, 2));
+            tells("heir", full, x -> x.heir(it, 1));
+            tells("clause", full, x -> x.clause(it, 3));
+            tells("with", full, x -> x.with(it));
+            tells("has", full, x -> x.has(it, 0));
+            tells("does", full, x -> x.does(it, 0));
+            tells("done", full, x -> x.done());
+            tells("quarrel", full, x -> x.quarrel(it));
+            tells("best", full, x -> x.best(it - 1));
+            tells("write", full, x -> x.write(it, 1));
+            tells("part", full, x -> x.part(it, 3, 0));
+            tells("whose", full, x -> x.whose(it));
+            tells("look", full, x -> x.look(it, 1));
+            tells("march", full, x -> x.march(5, it, 1, 0));
+            tells("wills", full, x -> x.wills(it, 20, it));
+            tells("get", full, x -> x.get(it, it, 0));
+            tells("count", full, x -> x.count(it));
+            tells("digest", full, x -> x.digest());
+        }
     }
 }
