@@ -15,6 +15,8 @@ final class Model {
     final List<int[]> sightings = new ArrayList<>();
     final int[][] values = new int[6][7];
     final Object[] sheets = new Object[4];
+    private final String[] splitText = new String[3];
+    private final String[][] splitRows = new String[3][];
     int finding = 0;
 
     Model() {
@@ -56,9 +58,14 @@ final class Model {
         return step == whole || step == whole + 2 ? -1 : t.length();
     }
 
+    /** Split anew only if the text is another one, as this is asked for some thousand times a call. */
     String[] rows(int text) {
         String t = texts[text].toString();
-        return t.isEmpty() || faultOf(text, t) >= 0 ? new String[0] : t.split(";");
+        if (!t.equals(splitText[text])) {
+            splitText[text] = t;
+            splitRows[text] = t.isEmpty() || faultOf(text, t) >= 0 ? new String[0] : t.split(";");
+        }
+        return splitRows[text];
     }
 
     int[] habitRow(int h) {

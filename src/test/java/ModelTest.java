@@ -1,16 +1,30 @@
+import java.util.ArrayList;
+import java.util.List;
+import java.util.Map;
 import java.util.Random;
+import java.util.TreeMap;
 
-/** Runs by a fixed seed: each answer of the class against the one of Model. */
+/**
+ * Runs by a fixed seed: each answer of the class against the one of Model. Three runs of four are calm: their texts
+ * are always well, so that the answers are seldom refusals; in the others the texts are broken and mended.
+ */
 public final class ModelTest {
     private static final long LONG_BAD = Long.MIN_VALUE + 2;
+    /** What later calls answer is free. The dearest step fills a text anew; the digest comes behind all. */
+    private static final int MOST_CALLS = 512, DEAREST_STEP = 61;
+    /** Of each call, answers in all and those that tell something (0 or more): a comparison of refusals alone is none. */
+    private static final Map<String, int[]> TOLD = new TreeMap<>();
     private final Random random;
     private final HabitWill x = new HabitWill();
     private final Model m = new Model();
     private final String name;
+    private final boolean calm;
+    private int calls = 0;
 
     private ModelTest(int run) {
         random = new Random(run * 7919L + 5);
         name = "run " + run + ": ";
+        calm = run % 4 != 3;
     }
 
     public static void main(String[] args) {
@@ -18,16 +32,29 @@ public final class ModelTest {
         for (int run = 0; run < runs; run++) {
             new ModelTest(run).go();
         }
+        enoughTold();
         Due.end();
+    }
+
+    private static void enoughTold() {
+        for (Map.Entry<String, int[]> e : TOLD.entrySet()) {
+            int[] n = e.getValue();
+            boolean enough = n[1] * 8 >= n[0];
+            Due.is(e.getKey() + ": " + n[1] + " of " + n[0] + " tell something, enough", enough ? 1 : 0, 1);
+        }
     }
 
     private void go() {
         refill(0);
         refill(1);
         refill(2);
-        for (int call = 0; call < 120; call++) {
+        for (int s = 0; calm && s < 4; s++) {
+            makeStep(s, random.nextInt(3), 6 + random.nextInt(25));
+        }
+        for (int step = 0; step < 120 && calls + DEAREST_STEP < MOST_CALLS; step++) {
             step(random.nextInt(34));
         }
+        digestStep();
     }
 
     private int pick(int low, int high) {
@@ -48,11 +75,17 @@ public final class ModelTest {
     }
 
     private void due(String call, long got, long want) {
+        int[] n = TOLD.computeIfAbsent(call.split(" ")[0], k -> new int[2]);
+        calls++;
+        n[0]++;
+        n[1] += want >= 0 ? 1 : 0;
         Due.is(name + call + " of " + m.texts[0] + " " + m.texts[1] + " " + m.texts[2], got, want);
     }
 
     private String row(int text) {
         char hour = (char) ('a' + random.nextInt(random.nextBoolean() ? 24 : 8));
+        int habits = calm ? Math.max(1, m.rows(0).length) : 8;
+        int heirs = calm ? Math.max(1, m.rows(1).length) : 6;
         if (text == 0) {
             int lean = random.nextInt(12);
             return "" + hour + (1 + random.nextInt(random.nextBoolean() ? 3 : 9)) + random.nextInt(10)
@@ -62,18 +95,22 @@ public final class ModelTest {
             char till = (char) ('a' + (hour - 'a' + random.nextInt(5)) % 24);
             return "" + (1 + random.nextInt(8)) + (random.nextInt(4) == 0 ? "" + hour + till : "mm");
         }
-        return "" + random.nextInt(random.nextBoolean() ? 8 : 4) + (random.nextInt(5) == 0 ? "-" : "+")
-            + random.nextInt(random.nextBoolean() ? 6 : 2) + (random.nextInt(3) == 0 ? "?" + random.nextInt(8) : "");
+        return "" + random.nextInt(random.nextInt(6) == 0 ? 8 : habits) + (random.nextInt(5) == 0 ? "-" : "+")
+            + random.nextInt(random.nextInt(6) == 0 ? 6 : Math.min(3, heirs))
+            + (random.nextInt(4) == 0 ? "?" + random.nextInt(habits) : "");
     }
 
     private void refill(int text) {
         x.wipe(text);
+        calls++;
         m.texts[text].setLength(0);
-        int n = random.nextInt(text == 0 ? 9 : text == 1 ? 7 : 16);
+        int most = text == 0 ? 8 : text == 1 ? 6 : 15;
+        int n = calm ? most - random.nextInt(most * 2 / 3) : random.nextInt(most + 1);
         for (int i = 0; i < n; i++) {
             String next = (i == 0 ? "" : ";") + row(text);
             if (m.texts[text].length() + next.length() <= Model.MOST_BYTES[text]) {
                 Due.typeAll(x, text, next);
+                calls += next.length();
                 m.texts[text].append(next);
             }
         }
@@ -97,6 +134,10 @@ public final class ModelTest {
         int text = pick(0, 2);
         boolean bad = !in(text, 0, 2);
         StringBuilder t = bad ? null : m.texts[text];
+        if (calm && !bad) {
+            undoneAndTypedAgain(text, t);
+            return;
+        }
         switch (kind) {
             case 0: {
                 String some = "abx1279.!;+-?0";
@@ -132,19 +173,53 @@ public final class ModelTest {
         }
     }
 
+    private void undoneAndTypedAgain(int text, StringBuilder t) {
+        if (t.length() == 0 || random.nextInt(12) == 0) {
+            refill(text);
+            return;
+        }
+        char last = t.charAt(t.length() - 1);
+        t.setLength(t.length() - 1);
+        due("undo", x.undo(text), t.length());
+        due("fault", x.fault(text), Model.faultOf(text, t.toString()));
+        due("type", x.type(text, last), t.append(last).length());
+        due("fault", x.fault(text), -1);
+    }
+
+    private int pickHabit() {
+        return random.nextInt(4) == 0 ? pick(0, 7) : pick(0, Math.max(0, m.rows(0).length - 1));
+    }
+
+    /** Often one of the first, as these have most. */
+    private int pickHeir() {
+        int heirs = Math.max(1, m.rows(1).length);
+        return random.nextBoolean() ? pick(0, Math.min(3, heirs) - 1) : pick(0, heirs - 1);
+    }
+
+    /** Often an hour in which one of his habits is, as else he mostly does nothing. */
+    private int pickHour(int heir) {
+        List<Integer> his = new ArrayList<>(isHeir(heir) ? Model.of(m.byTheWill().with, heir) : List.of());
+        if (his.isEmpty() || random.nextInt(4) == 0) {
+            return pick(0, 23);
+        }
+        int[] row = m.habitRow(his.get(random.nextInt(his.size())));
+        return (row[0] + random.nextInt(row[1])) % 24;
+    }
+
     private void rowStep(int kind) {
         int what = pick(0, 4);
-        int heir = pick(0, 5);
-        int habit = pick(0, 7);
+        int heir = random.nextBoolean() ? pick(0, 5) : pickHeir();
+        int habit = pickHabit();
         switch (kind) {
             case 6:
                 due("habit", x.habit(habit, what), !isHabit(habit) || !in(what, 0, 4) ? -2 : m.habitRow(habit)[what]);
                 break;
             case 7:
+                what = pick(0, 2);
                 due("heir", x.heir(heir, what), !isHeir(heir) || !in(what, 0, 2) ? -2 : m.heirRow(heir)[what]);
                 break;
             case 8: {
-                int clause = pick(0, 14);
+                int clause = random.nextInt(4) == 0 ? pick(0, 14) : pick(0, Math.max(0, m.rows(2).length - 1));
                 boolean bad = !in(clause, 0, m.rows(2).length - 1) || !in(what, 0, 3);
                 due("clause", x.clause(clause, what), bad ? -2 : m.clauseRow(clause)[what]);
                 break;
@@ -181,11 +256,11 @@ public final class ModelTest {
 
     private void willStep(int kind) {
         int what = pick(0, 3);
-        int heir = pick(0, Math.max(0, m.rows(1).length - 1));
-        int hour = pick(0, 23);
+        int heir = pickHeir();
+        int hour = pickHour(heir);
         switch (kind) {
             case 12: {
-                int habit = pick(0, 7);
+                int habit = pickHabit();
                 due("with", x.with(habit), !isHabit(habit) ? -2 : m.byTheWill().with.getOrDefault(habit, -1));
                 break;
             }
@@ -218,8 +293,8 @@ public final class ModelTest {
     }
 
     private void planStep(int kind) {
-        int heir = pick(0, Math.max(0, m.rows(1).length - 1));
-        int habit = pick(0, Math.max(0, m.rows(0).length - 1));
+        int heir = pickHeir();
+        int habit = pickHabit();
         int what = pick(0, 1);
         switch (kind) {
             case 18: {
@@ -240,16 +315,9 @@ public final class ModelTest {
             case 21:
                 seenStep();
                 break;
-            case 22: {
-                int bits = 0;
-                if (isHabit(habit)) {
-                    for (int who : m.candidates(habit)) {
-                        bits |= 1 << who;
-                    }
-                }
-                due("whose", x.whose(habit), isHabit(habit) ? bits : -2);
+            case 22:
+                due("whose", x.whose(habit), isHabit(habit) ? whoseBits(habit) : -2);
                 break;
-            }
             case 23:
                 due("look", x.look(habit, heir), !isHabit(habit) || !isHeir(heir) ? -2 : m.look(habit, heir));
                 break;
@@ -270,6 +338,14 @@ public final class ModelTest {
         }
     }
 
+    private int whoseBits(int habit) {
+        int bits = 0;
+        for (int who : m.candidates(habit)) {
+            bits |= 1 << who;
+        }
+        return bits;
+    }
+
     private static boolean maySee(int hour, int heir, int habit) {
         return in(hour, 0, 23) && in(heir, 0, 5) && in(habit, -1, 7);
     }
@@ -280,8 +356,8 @@ public final class ModelTest {
             m.sightings.clear();
             return;
         }
-        int hour = pick(0, 23);
         int heir = pick(0, random.nextBoolean() ? 5 : 1);
+        int hour = pickHour(heir);
         int habit = pick(-1, 7);
         if (isHeir(heir) && in(hour, 0, 23) && random.nextInt(4) > 0) {
             habit = m.doing(heir, Model.of(m.byTheWill().with, heir), hour);
@@ -299,10 +375,10 @@ public final class ModelTest {
         boolean bad = !in(s, 0, 3);
         Object sheet = bad ? null : m.sheets[s];
         int form = sheet == null || random.nextInt(5) == 0 ? pick(0, 2) : Model.formOf(sheet);
-        int i = pick(0, 11);
+        int i = pick(0, sheet == null ? 11 : Math.max(0, Model.sizeOf(sheet) - 1));
         switch (kind) {
             case 26:
-                makeStep(s, form, random.nextInt(6) == 0 ? pick(0, 60) : pick(0, 12));
+                makeStep(s, form, pick(0, random.nextBoolean() ? 60 : 12));
                 break;
             case 27:
                 if (random.nextInt(4) == 0) {
@@ -313,7 +389,7 @@ public final class ModelTest {
                 }
                 break;
             case 28: {
-                int v = random.nextBoolean() ? random.nextInt() : pick(-1, 7);
+                int v = random.nextInt(4) == 0 ? random.nextInt() : pick(-1, 7);
                 int finding = findingAt(s, form, i);
                 due("lay", x.lay(s, form, i, v), finding < 0 ? -2 : finding > 0 ? m.found(finding) : 1);
                 if (finding == 0) {
@@ -387,7 +463,7 @@ public final class ModelTest {
     }
 
     private void hoursStep(int s) {
-        int heir = pick(0, Math.max(0, m.rows(1).length - 1));
+        int heir = pickHeir();
         boolean bad = !isHeir(heir) || !in(s, 0, 3);
         Object sheet = bad ? null : m.sheets[s];
         due("hours", x.hours(heir, s), bad ? -2 : sheet == null ? m.found(1) : Math.min(24, Model.sizeOf(sheet)));
@@ -411,9 +487,68 @@ public final class ModelTest {
         due("read", x.read(s), bad ? -2 : sheet == null ? m.found(1) : n);
     }
 
+    private int[] counts() {
+        return new int[] {m.rows(0).length, m.rows(1).length, m.rows(2).length, m.texts[0].length(),
+            m.texts[1].length(), m.texts[2].length(), m.refusals.size(), m.sightings.size(), m.finding};
+    }
+
     private void countStep(int what) {
-        int[] counts = {m.rows(0).length, m.rows(1).length, m.rows(2).length, m.texts[0].length(), m.texts[1].length(),
-            m.texts[2].length(), m.refusals.size(), m.sightings.size(), m.finding};
-        due("count " + what, x.count(what), in(what, 0, 8) ? counts[what] : -2);
+        due("count " + what, x.count(what), in(what, 0, 8) ? counts()[what] : -2);
+    }
+
+    /** Compared by itself and not as one that tells something, as it may well be below 0. */
+    private void digestStep() {
+        List<Long> all = new ArrayList<>();
+        for (int what = 0; what <= 7; what++) {
+            all.add((long) counts()[what]);
+        }
+        for (int text = 0; text <= 2; text++) {
+            all.add((long) Model.faultOf(text, m.texts[text].toString()));
+        }
+        for (int habit = 0; habit < m.rows(0).length; habit++) {
+            addHabit(all, habit);
+        }
+        for (int heir = 0; heir < m.rows(1).length; heir++) {
+            addHeir(all, heir);
+        }
+        for (int clause = 0; clause < m.rows(2).length; clause++) {
+            addAll(all, m.clauseRow(clause));
+        }
+        int[] best = m.best();
+        addAll(all, m.byTheWill().done);
+        addAll(all, m.quarrel());
+        addAll(all, Math.max(0, best[0]), best[1]);
+        long h = 17;
+        for (long next : all) {
+            h = 31 * h + next;
+        }
+        calls++;
+        Due.is(name + "digest", x.digest(), h);
+        Due.is(name + "calls within what is promised", calls <= MOST_CALLS ? 1 : 0, 1);
+    }
+
+    private static void addAll(List<Long> all, int... next) {
+        for (int n : next) {
+            all.add((long) n);
+        }
+    }
+
+    private void addHabit(List<Long> all, int habit) {
+        addAll(all, m.habitRow(habit));
+        addAll(all, m.byTheWill().with.getOrDefault(habit, -1), whoseBits(habit));
+        addAll(all, isHeir(0) ? m.look(habit, 0) : -2);
+    }
+
+    private void addHeir(List<Long> all, int heir) {
+        addAll(all, m.heirRow(heir));
+        addAll(all, has(heir, 0), has(heir, 1), has(heir, 2), has(heir, 3));
+        for (int hour : new int[] {0, 7, 20}) {
+            addAll(all, m.doing(heir, Model.of(m.byTheWill().with, heir), hour));
+        }
+        addAll(all, m.write(heir));
+        addAll(all, heir == 0 ? new int[] {-2, -2} : m.part(0, heir));
+        all.add(m.march(5, heir, 1, 0));
+        all.add(m.march(5, heir, 1, 1));
+        addAll(all, m.rows(0).length == 0 ? -2 : m.wills(7, 9, heir));
     }
 }
